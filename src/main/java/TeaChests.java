@@ -424,21 +424,16 @@ public final class TeaChests {
 
     private boolean carryOutRead() {
         Verb verb = text.verb;
-        if (verb == null) {
+        if (verb == Verb.SAIL) {
+            return house.trySail();
+        }
+        if (verb == Verb.HOURS) {
+            return isWithin(text.many, 1, MOST_HOURS_PASSED) && house.letPass(text.many);
+        }
+        Chest meant = house.find(text.chest);
+        if (verb == null || meant == null) {
             return false;
         }
-        switch (verb) {
-            case SAIL:
-                return house.trySail();
-            case HOURS:
-                return isWithin(text.many, 1, MOST_HOURS_PASSED) && house.letPass(text.many);
-            default:
-                Chest meant = house.find(text.chest);
-                return meant != null && carryOutOn(meant, verb);
-        }
-    }
-
-    private boolean carryOutOn(Chest meant, Verb verb) {
         switch (verb) {
             case LINE:
                 return house.tryLine(meant);

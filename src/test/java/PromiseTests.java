@@ -45,6 +45,7 @@ public final class PromiseTests {
         promise30Account();
         promise31Feed();
         promise32PerformSyntax();
+        promise32PerformSyntaxAgain();
         promise32PerformCarriesOut();
         promise32PerformAllOrNone();
         promise33Undo();
@@ -271,6 +272,10 @@ public final class PromiseTests {
         due(3, x::bestGarden);
         x.undo();
         due(5, x::bestGarden);
+        x.bring(1, 0, 12);
+        due(1, x::bestGarden);
+        x.bring(0, 1, 12);
+        due(0, x::bestGarden);
     }
 
     private static void promise5Buy() {
@@ -794,6 +799,13 @@ public final class PromiseTests {
         due(7, () -> x.load(house));
         due(INDEX, () -> x.load(5));
         due(INDEX, () -> x.load(-1));
+
+        TeaChests y = stocked();
+        onShip(y, 5, 0, 1);
+        onShip(y, 5, 0, 1);
+        due(0, () -> y.load(onQuay(y, 2, 0, 1)));
+        int more = onQuay(y, 1, 0, 1);
+        refused(y, 17, 0, () -> y.load(more));
     }
 
     private static void promise19Sail() {
@@ -1157,6 +1169,8 @@ public final class PromiseTests {
         syntaxError(8, "fill 0 12.dust 1");
         syntaxError(9, "fill 0 1.");
         syntaxError(9, "fill 0 1.x");
+        syntaxError(9, "fill 0 1. 1");
+        syntaxError(11, "fill 0 1.du 1");
         syntaxError(10, "fill 0 1.d");
         syntaxError(10, "fill 0 1.dx");
         syntaxError(12, "fill 0 1.dusk 1");
@@ -1177,6 +1191,28 @@ public final class PromiseTests {
         syntaxError(13, "line 0;load 0x");
         syntaxError(55, "sail;sail;sail;sail;sail;sail;sail;sail;sail;sail;sail;saix;".substring(0, 55));
         syntaxError(60, "sail;sail;sail;sail;sail;sail;sail;sail;sail;sail;sail;sail;");
+    }
+
+    /** What an earlier, longer text has left behind must not show in a later one. */
+    private static void promise32PerformSyntaxAgain() {
+        promise = "32, perform, errors of syntax one after the other";
+        TeaChests x = new TeaChests();
+        String sails = "sail;sail;sail;sail;sail;sail;sail;sail;sail;";
+        due(-160, () -> perform(x, sails + "hours 12;fill 0"));
+        due(-160, () -> perform(x, sails + "sail;sail;line "));
+        due(-160, () -> perform(x, sails + "load 0;line 12;"));
+        due(-158, () -> perform(x, sails + "sail;sail;lin"));
+        due(-115, () -> perform(x, "fill 0 1.dust 1x"));
+        due(-113, () -> perform(x, "fill 0 1.dust"));
+        due(-112, () -> perform(x, "fill 0 1.dus"));
+        due(-109, () -> perform(x, "fill 0 1.x"));
+        due(-108, () -> perform(x, "fill 0 1"));
+        due(-106, () -> perform(x, "fill 0"));
+        due(-105, () -> perform(x, "line "));
+        due(-100, () -> perform(x, "x"));
+        due(-100, () -> perform(x, ""));
+        due(1, () -> perform(x, "hours 1"));
+        due(1, () -> x.account(0));
     }
 
     private static void promise32PerformCarriesOut() {
@@ -1216,6 +1252,10 @@ public final class PromiseTests {
         x.setHumidity(5);
         due(2, () -> perform(x, "hours 3;label 2"));
         due("1.tips 50 damp", () -> labelOf(x, 2));
+        x.bring(0, 1, 9);
+        due(2, () -> perform(x, "fill 19 0.broken 1;screw 19 1"));
+        due(0, () -> x.chest(19, 1));
+        due(1, () -> x.chest(19, 5));
     }
 
     /** The text is correct, but this command of it cannot be carried out. */
@@ -1392,6 +1432,14 @@ public final class PromiseTests {
         due(first, () -> picture(x));
         due(5, x::restore);
         due(second, () -> picture(x));
+
+        TeaChests z = new TeaChests();
+        z.make(2);
+        z.save();
+        z.undo();
+        z.make(5);
+        due(0, z::restore);
+        due(2, () -> z.chest(0, 0));
 
         TeaChests y = new TeaChests();
         due(0, y::save);
