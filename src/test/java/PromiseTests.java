@@ -1,180 +1,14 @@
 import java.util.concurrent.Callable;
 
 /** One test or more for each promise of the document: ordinary inputs, edges, and wrong inputs. */
-public final class PromiseTests {
-    private static final String INDEX = "IndexOutOfBoundsException";
-    private static final String ARGUMENT = "IllegalArgumentException";
-    private static final String STATE = "IllegalStateException";
-    private static final String REFUSED = "UnsupportedOperationException";
-    private static final String NONE = "NoSuchElementException";
-    private static final String ARITHMETIC = "ArithmeticException";
-
-    private static int wrong = 0;
-    private static int asked = 0;
-    private static String promise = "";
-
+public final class PromiseTests extends Asking {
     public static void main(String[] args) {
-        promise1NewObject();
-        promise2Bring();
-        promise3Leaves();
-        promise4BestGarden();
-        promise5Buy();
-        promise6Make();
-        promise7Line();
-        promise8Fill();
-        promise9Empty();
-        promise10Screw();
-        promise11Unscrew();
-        promise12Label();
-        promise13Labelled();
-        promise14Chest();
-        promise15Worth();
-        promise16Ranked();
-        promise17ToQuay();
-        promise18Load();
-        promise19Sail();
-        promise20Cargo();
-        promise21And22Height();
-        promise23ReachedIn();
-        promise24SetHumidity();
-        promise25Pass();
-        promise26IsWell();
-        promise27MeanDamp();
-        promise28SailedShare();
-        promise29Reason();
-        promise30Account();
-        promise31Feed();
-        promise32PerformSyntax();
-        promise32PerformSyntaxAgain();
-        promise32PerformCarriesOut();
-        promise32PerformAllOrNone();
-        promise33Undo();
-        promise33UndoOfEachChange();
-        promise34And35SaveAndRestore();
-        System.out.println(asked - wrong + " answers as due, " + wrong + " not");
-        if (wrong != 0) {
-            System.exit(1);
-        }
-    }
-
-    // ---- helpers
-
-    private static String answer(Callable<?> call) {
-        try {
-            return String.valueOf(call.call());
-        } catch (Exception e) {
-            return e.getClass().getSimpleName();
-        }
-    }
-
-    private static void due(Object want, Callable<?> call) {
-        asked++;
-        String got = answer(call);
-        if (!got.equals(String.valueOf(want))) {
-            wrong++;
-            StackTraceElement[] trace = new Throwable().getStackTrace();
-            int line = 0;
-            for (StackTraceElement element : trace) {
-                if (element.getMethodName().startsWith("promise")) {
-                    line = element.getLineNumber();
-                    break;
-                }
-            }
-            System.out.println(promise + ", line " + line + ": answered " + got + ", due is " + want);
-        }
-    }
-
-    /** The call is refused for this reason, with this detail. */
-    private static void refused(TeaChests x, int reason, int detail, Callable<?> call) {
-        due(REFUSED, call);
-        due(reason, () -> x.reason(false));
-        due(detail, () -> x.reason(true));
-    }
-
-    private static void feed(TeaChests x, String text) {
-        for (char letter : text.toCharArray()) {
-            x.feed(letter);
-        }
-    }
-
-    private static int perform(TeaChests x, String text) {
-        feed(x, text);
-        return x.perform();
-    }
-
-    private static String labelOf(TeaChests x, int chest) {
-        StringBuilder label = new StringBuilder();
-        for (int i = 0; i < x.chest(chest, 9); i++) {
-            label.append(x.labelled(chest, i));
-        }
-        return label.toString();
-    }
-
-    /** All that can be asked about an object, but for its buffer, its reason and its changes. */
-    private static String picture(TeaChests x) {
-        StringBuilder all = new StringBuilder();
-        for (int what = 0; what <= 15; what++) {
-            all.append(x.account(what)).append(' ');
-        }
-        for (int garden = 0; garden < 6; garden++) {
-            for (int kind = 0; kind < 3; kind++) {
-                all.append(x.leaves(garden, kind)).append(' ');
-            }
-        }
-        for (int chest = 0; chest < x.account(8); chest++) {
-            for (int what = 0; what <= 9; what++) {
-                all.append(x.chest(chest, what)).append(' ');
-            }
-            all.append(labelOf(x, chest)).append('|');
-        }
-        return all.toString();
-    }
-
-    /** A house with sheets and screws enough, and leaves of each kind of garden 1. */
-    private static TeaChests stocked() {
-        TeaChests x = new TeaChests();
-        for (int i = 0; i < 3; i++) {
-            x.buy(true, 99);
-            x.buy(false, 99);
-        }
-        x.bring(1, 0, 300);
-        x.bring(1, 1, 300);
-        x.bring(1, 2, 300);
-        return x;
-    }
-
-    /** Makes a chest that is lined, filled, screwed tight, and labelled. */
-    private static int ready(TeaChests x, int size, int kind, int pounds) {
-        int chest = x.make(size);
-        x.line(chest);
-        x.fill(chest, 1, kind, pounds);
-        x.screw(chest, size + 2);
-        x.label(chest);
-        return chest;
-    }
-
-    private static int onQuay(TeaChests x, int size, int kind, int pounds) {
-        int chest = ready(x, size, kind, pounds);
-        x.toQuay(chest);
-        return chest;
-    }
-
-    private static int onShip(TeaChests x, int size, int kind, int pounds) {
-        int chest = onQuay(x, size, kind, pounds);
-        x.load(chest);
-        return chest;
-    }
-
-    private static int gone(TeaChests x, int size, int kind, int pounds) {
-        int chest = onShip(x, size, kind, pounds);
-        x.sail();
-        return chest;
+        run(PromiseTests.class);
     }
 
     // ---- promises 1 to 5
 
     private static void promise1NewObject() {
-        promise = "1, a new object";
         TeaChests x = new TeaChests();
         int[] accounts = {0, 0, 0, 0, 0, 0, 10, 20, 0, 0, 0, 0, 12, 0, 0, 4, 0, 0};
         for (int what = 0; what < accounts.length; what++) {
@@ -201,7 +35,6 @@ public final class PromiseTests {
     }
 
     private static void promise2Bring() {
-        promise = "2, bring";
         TeaChests x = new TeaChests();
         due(30, () -> x.bring(3, 2, 30));
         due(31, () -> x.bring(3, 2, 1));
@@ -229,7 +62,6 @@ public final class PromiseTests {
     }
 
     private static void promise3Leaves() {
-        promise = "3, leaves";
         TeaChests x = new TeaChests();
         for (int garden = 0; garden < 6; garden++) {
             for (int kind = 0; kind < 3; kind++) {
@@ -252,7 +84,6 @@ public final class PromiseTests {
     }
 
     private static void promise4BestGarden() {
-        promise = "4, bestGarden";
         TeaChests x = new TeaChests();
         due(0, x::bestGarden);
         x.bring(5, 0, 10);
@@ -279,7 +110,6 @@ public final class PromiseTests {
     }
 
     private static void promise5Buy() {
-        promise = "5, buy";
         TeaChests x = new TeaChests();
         due(11, () -> x.buy(false, 1));
         due(21, () -> x.buy(true, 1));
@@ -304,7 +134,6 @@ public final class PromiseTests {
     // ---- promises 6 to 16
 
     private static void promise6Make() {
-        promise = "6, make";
         TeaChests x = new TeaChests();
         due(ARGUMENT, () -> x.make(0));
         due(ARGUMENT, () -> x.make(6));
@@ -330,7 +159,6 @@ public final class PromiseTests {
     }
 
     private static void promise7Line() {
-        promise = "7, line";
         TeaChests x = new TeaChests();
         x.bring(1, 0, 100);
         x.make(2);
@@ -370,7 +198,6 @@ public final class PromiseTests {
     }
 
     private static void promise8Fill() {
-        promise = "8, fill";
         TeaChests x = new TeaChests();
         x.bring(3, 2, 20);
         x.bring(3, 1, 500);
@@ -431,7 +258,6 @@ public final class PromiseTests {
     }
 
     private static void promise9Empty() {
-        promise = "9, empty";
         TeaChests x = new TeaChests();
         x.bring(2, 1, 500);
         int chest = x.make(4);
@@ -477,7 +303,6 @@ public final class PromiseTests {
     }
 
     private static void promise10Screw() {
-        promise = "10, screw";
         TeaChests x = new TeaChests();
         x.bring(0, 0, 100);
         for (int size = 1; size <= 5; size++) {
@@ -525,7 +350,6 @@ public final class PromiseTests {
     }
 
     private static void promise11Unscrew() {
-        promise = "11, unscrew";
         TeaChests x = new TeaChests();
         x.bring(0, 0, 100);
         x.make(1);
@@ -560,7 +384,6 @@ public final class PromiseTests {
     }
 
     private static void promise12Label() {
-        promise = "12, label";
         TeaChests x = new TeaChests();
         x.bring(0, 0, 9);
         x.bring(5, 1, 50);
@@ -611,7 +434,6 @@ public final class PromiseTests {
     }
 
     private static void promise13Labelled() {
-        promise = "13, labelled";
         TeaChests x = new TeaChests();
         x.bring(3, 2, 20);
         x.make(2);
@@ -630,7 +452,6 @@ public final class PromiseTests {
     }
 
     private static void promise14Chest() {
-        promise = "14, chest";
         TeaChests x = stocked();
         x.setHumidity(9);
         x.make(3);
@@ -663,7 +484,6 @@ public final class PromiseTests {
     }
 
     private static void promise15Worth() {
-        promise = "15, worth";
         TeaChests x = stocked();
         x.make(5);
         due(0, () -> x.worth(0));
@@ -694,7 +514,6 @@ public final class PromiseTests {
     }
 
     private static void promise16Ranked() {
-        promise = "16, ranked";
         TeaChests x = stocked();
         due(NONE, () -> x.ranked(0));
         x.make(1);
@@ -735,7 +554,6 @@ public final class PromiseTests {
     // ---- promises 17 to 23
 
     private static void promise17ToQuay() {
-        promise = "17, toQuay";
         TeaChests x = stocked();
         x.make(2);
         refused(x, 10, 0, () -> x.toQuay(0));
@@ -769,7 +587,6 @@ public final class PromiseTests {
     }
 
     private static void promise18Load() {
-        promise = "18, load";
         TeaChests x = stocked();
         int[] chests = new int[4];
         for (int i = 0; i < chests.length; i++) {
@@ -809,7 +626,6 @@ public final class PromiseTests {
     }
 
     private static void promise19Sail() {
-        promise = "19, sail";
         TeaChests x = stocked();
         refused(x, 18, 0, x::sail);
         int first = onShip(x, 2, 2, 20);
@@ -843,7 +659,6 @@ public final class PromiseTests {
     }
 
     private static void promise20Cargo() {
-        promise = "20, cargo";
         TeaChests x = stocked();
         due(0, x::cargo);
         onQuay(x, 1, 2, 10);
@@ -873,7 +688,6 @@ public final class PromiseTests {
     }
 
     private static void promise21And22Height() {
-        promise = "21 and 22, height and heightAgain";
         int[] heights = {6, 5, 4, 3, 2, 1, 0, 1, 2, 3, 4, 5};
         TeaChests x = new TeaChests();
         for (int clock = 0; clock < 30; clock++) {
@@ -897,7 +711,6 @@ public final class PromiseTests {
     }
 
     private static void promise23ReachedIn() {
-        promise = "23, reachedIn";
         int[] hours = {0, 0, 0, 0, 5, 4, 3, 2, 1, 0, 0, 0, 0};
         TeaChests x = new TeaChests();
         for (int want : hours) {
@@ -909,7 +722,6 @@ public final class PromiseTests {
     // ---- promises 24 to 30
 
     private static void promise24SetHumidity() {
-        promise = "24, setHumidity";
         TeaChests x = new TeaChests();
         due(4, () -> x.setHumidity(0));
         due(0, () -> x.account(15));
@@ -924,7 +736,6 @@ public final class PromiseTests {
     }
 
     private static void promise25Pass() {
-        promise = "25, pass";
         TeaChests x = stocked();
         due(5, () -> x.pass(1));
         due(1, () -> x.account(0));
@@ -974,7 +785,6 @@ public final class PromiseTests {
     }
 
     private static void promise26IsWell() {
-        promise = "26, isWell";
         TeaChests x = stocked();
         due(true, x::isWell);
         onShip(x, 2, 2, 20);
@@ -993,7 +803,6 @@ public final class PromiseTests {
     }
 
     private static void promise27MeanDamp() {
-        promise = "27, meanDamp";
         TeaChests x = stocked();
         due(ARITHMETIC, x::meanDamp);
         x.make(1);
@@ -1023,7 +832,6 @@ public final class PromiseTests {
     }
 
     private static void promise28SailedShare() {
-        promise = "28, sailedShare";
         TeaChests x = new TeaChests();
         due(ARITHMETIC, x::sailedShare);
         x.buy(false, 99);
@@ -1044,7 +852,6 @@ public final class PromiseTests {
     }
 
     private static void promise29Reason() {
-        promise = "29, reason";
         TeaChests x = new TeaChests();
         due(NONE, () -> x.reason(false));
         due(NONE, () -> x.reason(true));
@@ -1068,7 +875,6 @@ public final class PromiseTests {
     }
 
     private static void promise30Account() {
-        promise = "30, account";
         TeaChests x = stocked();
         x.setHumidity(8);
         onShip(x, 4, 1, 40);
@@ -1098,7 +904,6 @@ public final class PromiseTests {
     // ---- promises 31 to 35
 
     private static void promise31Feed() {
-        promise = "31, feed";
         TeaChests x = new TeaChests();
         for (int many = 1; many <= 60; many++) {
             char letter = (char) (many * 1000);
@@ -1127,7 +932,6 @@ public final class PromiseTests {
     }
 
     private static void promise32PerformSyntax() {
-        promise = "32, perform, errors of syntax";
         syntaxError(0, "");
         syntaxError(0, ";");
         syntaxError(0, " sail");
@@ -1195,7 +999,6 @@ public final class PromiseTests {
 
     /** What an earlier, longer text has left behind must not show in a later one. */
     private static void promise32PerformSyntaxAgain() {
-        promise = "32, perform, errors of syntax one after the other";
         TeaChests x = new TeaChests();
         String sails = "sail;sail;sail;sail;sail;sail;sail;sail;sail;";
         due(-160, () -> perform(x, sails + "hours 12;fill 0"));
@@ -1216,7 +1019,6 @@ public final class PromiseTests {
     }
 
     private static void promise32PerformCarriesOut() {
-        promise = "32, perform, what is carried out";
         TeaChests x = stocked();
         x.make(1);
         x.make(2);
@@ -1279,7 +1081,6 @@ public final class PromiseTests {
     }
 
     private static void promise32PerformAllOrNone() {
-        promise = "32, perform, what cannot be carried out";
         cannot(0, "line 0");
         cannot(0, "line 5");
         cannot(0, "line 20");
@@ -1317,7 +1118,6 @@ public final class PromiseTests {
     }
 
     private static void promise33Undo() {
-        promise = "33, undo";
         TeaChests x = new TeaChests();
         due(STATE, x::undo);
         for (int i = 1; i <= 10; i++) {
@@ -1366,7 +1166,6 @@ public final class PromiseTests {
     }
 
     private static void promise33UndoOfEachChange() {
-        promise = "33, undo of each change";
         TeaChests x = stocked();
         undone(x, () -> x.bring(2, 2, 7));
         undone(x, () -> x.buy(true, 1));
@@ -1392,7 +1191,6 @@ public final class PromiseTests {
     }
 
     private static void promise34And35SaveAndRestore() {
-        promise = "34 and 35, save and restore";
         TeaChests x = stocked();
         due(STATE, x::restore);
         x.setHumidity(8);
