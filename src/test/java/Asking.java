@@ -27,6 +27,8 @@ abstract class Asking {
     static final int TIPS = 2;
 
     private static final int MOST_COMPLAINTS = 3;
+    /** Far more than all tests of a class need. */
+    private static final long MOST_MILLISECONDS = 300_000;
 
     private static int wrong = 0;
     private static int asked = 0;
@@ -57,7 +59,23 @@ abstract class Asking {
 
     // ---- running
 
+    /** A call that does not end fails the test, too. */
+    static void watch() {
+        Thread watcher = new Thread(() -> {
+            try {
+                Thread.sleep(MOST_MILLISECONDS);
+            } catch (InterruptedException e) {
+                return;
+            }
+            System.out.println("a call does not end");
+            Runtime.getRuntime().halt(1);
+        });
+        watcher.setDaemon(true);
+        watcher.start();
+    }
+
     static void run(Class<?> tests) {
+        watch();
         List<Method> methods = new ArrayList<>();
         for (Method method : tests.getDeclaredMethods()) {
             boolean isTest = Modifier.isStatic(method.getModifiers()) && !method.isSynthetic()

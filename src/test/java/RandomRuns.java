@@ -13,6 +13,7 @@ public final class RandomRuns {
     private static final int CALLS = 512;
 
     public static void main(String[] args) {
+        Asking.watch();
         long[] answered = new long[CALLS_BY_NAME.length];
         long[] thrown = new long[CALLS_BY_NAME.length];
         for (int run = 0; run < RUNS; run++) {

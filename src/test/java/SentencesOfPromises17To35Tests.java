@@ -682,6 +682,11 @@ public final class SentencesOfPromises17To35Tests extends Asking {
         due(-114, () -> perform(x, "hours 1;hours x"));
         due(1, () -> perform(x, "hours 1"));
         due(3, () -> x.account(0));
+        due(-105, () -> perform(x, "hours"));
+        due(-103, () -> perform(x, "hou"));
+        due(-115, () -> perform(x, "fill 0 1.dust 1x"));
+        due(-111, () -> perform(x, "fill 0 1.du"));
+        due(-100, x::perform);
     }
 
     @Says(promise = 32, value = "Returns the number of commands; -100 minus the error position after a syntax error.")
@@ -713,6 +718,8 @@ public final class SentencesOfPromises17To35Tests extends Asking {
         due(-159, () -> perform(x, eleven + "sailx"));
         due(-160, () -> perform(x, eleven + "sail;"));
         due(-160, () -> perform(x, eleven + "line "));
+        due(-160, () -> perform(x, eleven + "hours"));
+        due(-160, () -> perform(x, eleven + "screw"));
         due(-158, () -> perform(x, eleven + "linx "));
     }
 
@@ -771,6 +778,7 @@ public final class SentencesOfPromises17To35Tests extends Asking {
         takenBack(x, y -> y.load(0));
         takenBack(x, y -> y.sail());
         due(1, () -> x.account(13));
+        takenBack(x, y -> y.bring(5, TIPS, 1));
     }
 
     @Says(promise = 33, value = UNDO)
@@ -829,6 +837,20 @@ public final class SentencesOfPromises17To35Tests extends Asking {
         x.isWell();
         x.meanDamp();
         x.sailedShare();
+    }
+
+    @Says(promise = 33, value = UNDO)
+    private static void p33NumbersThatAreGivenAgain() {
+        TeaChests x = stocked();
+        filled(x, 5, TIPS, 50);
+        x.undo();
+        x.undo();
+        // Another chest with the same number has nothing of the one before.
+        due(0, () -> x.make(1));
+        due(1, () -> x.chest(0, 0));
+        due(0, () -> x.chest(0, 3));
+        due(6, x::undo);
+        due(INDEX, () -> x.chest(0, 0));
     }
 
     private static final String EIGHT = "The 8 latest changes are kept; older ones are gone for good.";
@@ -1028,6 +1050,23 @@ public final class SentencesOfPromises17To35Tests extends Asking {
         }
         due(0, x::restore);
         due(saved, () -> picture(x));
+    }
+
+    @Says(promise = 35, value = RESTORE)
+    private static void p35ChestsThatWereMadeOtherwise() {
+        TeaChests x = new TeaChests();
+        x.make(2);
+        x.save();
+        due(0, x::undo);
+        x.make(5);
+        x.make(4);
+        due(0, x::restore);
+        due(2, () -> x.chest(0, 0));
+        due(1, () -> x.account(8));
+        due(INDEX, () -> x.chest(1, 0));
+        // A chest that was made behind the snapshot is made anew.
+        due(1, () -> x.make(3));
+        due(3, () -> x.chest(1, 0));
     }
 
     @Says(promise = 35, value = RESTORE)

@@ -1,4 +1,5 @@
-import java.util.concurrent.Callable;
+import java.util.regex.Matcher;
+import java.util.regex.Pattern;
 
 /** A test of its own for each sentence of the section "Terms" that names a boundary case. */
 public final class SentencesOfTermsTests extends Asking {
@@ -1220,12 +1221,68 @@ public final class SentencesOfTermsTests extends Asking {
         "screw 12 0;label 3", "label 7;label 12", "quay 0;quay 10;load 5", "load 11;sail;sail;line 1", "sail",
         "sail;hours 72;sail;hours 5;screw 1 1;fill 1 0.tips 3"};
 
+    private static final String NUMBER = "[0-9][0-9]?";
+    private static final String COMMAND = "(line " + NUMBER + "|fill " + NUMBER + " [0-9][.](dust|broken|tips) " + NUMBER
+            + "|screw " + NUMBER + " [0-9]|label " + NUMBER + "|quay " + NUMBER + "|load " + NUMBER + "|sail|hours "
+            + NUMBER + ")";
+    private static final Pattern TEXT = Pattern.compile(COMMAND + "(;" + COMMAND + ")*", Pattern.DOTALL);
+
     private static boolean isWhole(String text) {
-        String number = "[0-9][0-9]?";
-        String command = "(line " + number + "|fill " + number + " [0-9][.](dust|broken|tips) " + number + "|screw "
-                + number + " [0-9]|label " + number + "|quay " + number + "|load " + number + "|sail|hours " + number
-                + ")";
-        return text.matches(command + "(;" + command + ")*");
+        return TEXT.matcher(text).matches();
+    }
+
+    private static boolean canGoOn(String text) {
+        Matcher matcher = TEXT.matcher(text);
+        return matcher.matches() || matcher.hitEnd();
+    }
+
+    private static int errorPosition(String text) {
+        int position = 0;
+        while (position < text.length() && canGoOn(text.substring(0, position + 1))) {
+            position++;
+        }
+        return position;
+    }
+
+    /** A text that is correct is carried out or refused, and any other has its error position. */
+    private static void readAsItIsDue(String text) {
+        if (text.length() > 60) {
+            return;
+        }
+        if (!isWhole(text)) {
+            due(-100 - errorPosition(text), () -> perform(new TeaChests(), text));
+            return;
+        }
+        String answered = answer(() -> perform(new TeaChests(), text));
+        due(true, () -> answered.equals(REFUSED) || answered.equals("" + text.split(";").length));
+    }
+
+    @Says(ERROR_POSITION)
+    private static void oneCharacterTooManyTooFewOrOther() {
+        for (String text : TEXTS) {
+            for (int at = 0; at < text.length(); at++) {
+                String ahead = text.substring(0, at);
+                readAsItIsDue(ahead + text.substring(at + 1));
+                for (char sign : "09 .;lsdbtx".toCharArray()) {
+                    readAsItIsDue(ahead + sign + text.substring(at));
+                    readAsItIsDue(ahead + sign + text.substring(at + 1));
+                }
+            }
+        }
+    }
+
+    @Says(ERROR_POSITION)
+    private static void whatMustStandBetweenIsMissing() {
+        due(-104, () -> perform(new TeaChests(), "sailsail"));
+        due(-106, () -> perform(new TeaChests(), "line 0line 1"));
+        due(-107, () -> perform(new TeaChests(), "fill 011.dust 1"));
+        due(-108, () -> perform(new TeaChests(), "fill 0 1dust 1"));
+        due(-109, () -> perform(new TeaChests(), "fill 0 1. 1"));
+        due(-110, () -> perform(new TeaChests(), "fill 0 1.d 1"));
+        due(-113, () -> perform(new TeaChests(), "fill 0 1.dust1"));
+        due(-108, () -> perform(new TeaChests(), "screw 011"));
+        due(-104, () -> perform(new TeaChests(), "line0"));
+        due(-105, () -> perform(new TeaChests(), "hours0"));
     }
 
     @Says(ERROR_POSITION)
