@@ -982,7 +982,7 @@ public final class TeaChests {
         private static final int ROWS = MOST_CHANGES + 1;
 
         private final House[] rows = new House[ROWS];
-        private int spare;
+        private int committed;
         int changes;
 
         History() {
@@ -991,17 +991,21 @@ public final class TeaChests {
             }
         }
 
+        private House spareRow() {
+            return rows[Math.floorMod(committed, ROWS)];
+        }
+
         void prepare(House house) {
-            rows[spare].copyFrom(house);
+            spareRow().copyFrom(house);
         }
 
         void commit() {
-            spare = (spare + 1) % ROWS;
+            committed++;
             changes = Math.min(MOST_CHANGES, changes + 1);
         }
 
         void dropPrepared(House house) {
-            house.copyFrom(rows[spare]);
+            house.copyFrom(spareRow());
         }
 
         boolean takeBack(House house) {
@@ -1009,8 +1013,8 @@ public final class TeaChests {
                 return false;
             }
             changes--;
-            spare = (spare + ROWS - 1) % ROWS;
-            house.copyFrom(rows[spare]);
+            committed--;
+            house.copyFrom(spareRow());
             return true;
         }
 
@@ -1021,6 +1025,9 @@ public final class TeaChests {
 
     /** The input buffer, and a reader that goes over it. Where reading fails, the reader stays at the error position. */
     private static final class CommandText {
+        /** Like no sign, so that nothing that is looked for is found behind the end of the text. */
+        private static final int NO_SIGN = -1;
+
         private final char[] signs = new char[MOST_SIGNS];
         int length;
         private int at;
@@ -1081,11 +1088,15 @@ public final class TeaChests {
         }
 
         boolean readSign(char sign) {
-            if (at >= length || signs[at] != sign) {
+            if (signAt(at) != sign) {
                 return false;
             }
             at++;
             return true;
+        }
+
+        private int signAt(int offset) {
+            return offset >= 0 && offset < length && offset < signs.length ? signs[offset] : NO_SIGN;
         }
 
         private boolean readLeaf() {
@@ -1119,12 +1130,12 @@ public final class TeaChests {
         }
 
         private int readDigit() {
-            if (at >= length || signs[at] < '0' || signs[at] > '9') {
+            int sign = signAt(at);
+            if (sign < '0' || sign > '9') {
                 return -1;
             }
-            int digit = signs[at] - '0';
             at++;
-            return digit;
+            return sign - '0';
         }
 
         private Verb readVerb() {
@@ -1153,7 +1164,7 @@ public final class TeaChests {
         /** A word that does not stand here may still begin here: the error is where the likest of them breaks off. */
         private boolean readWord(String word) {
             int alike = 0;
-            while (alike < word.length() && at + alike < length && signs[at + alike] == word.charAt(alike)) {
+            while (alike < word.length() && signAt(at + alike) == word.charAt(alike)) {
                 alike++;
             }
             if (alike == word.length()) {

@@ -7,7 +7,10 @@ import java.util.HashSet;
 import java.util.Set;
 import java.util.TreeSet;
 
-/** The section "The public face": just the members that it names, with their types and the exceptions they name. */
+/**
+ * The section "The public face": just the members that it names, with their types and the exceptions they name; and
+ * what LANGUAGE.md allows of members, as far as the compiled class tells.
+ */
 public final class FaceTests extends Asking {
     private static final String[] FACE = {
         "int bring(int, int, int) " + INDEX + " " + ARGUMENT + " " + REFUSED,
@@ -108,6 +111,69 @@ public final class FaceTests extends Asking {
         for (Method method : TeaChests.class.getDeclaredMethods()) {
             if (Modifier.isPrivate(method.getModifiers())) {
                 due(false, () -> names.contains(method.getName()));
+            }
+        }
+    }
+
+    // ---- the limits of LANGUAGE.md on the members of the class and of those inside it
+
+    private static Set<Class<?>> allClasses() {
+        Set<Class<?>> all = new HashSet<>(Arrays.asList(TeaChests.class.getDeclaredClasses()));
+        all.add(TeaChests.class);
+        return all;
+    }
+
+    private static boolean isConstant(Field field) {
+        return Modifier.isStatic(field.getModifiers()) && Modifier.isFinal(field.getModifiers());
+    }
+
+    /** Rule 5, as far as the type of a field tells. */
+    private static void staticFieldsAreConstants() {
+        Set<Class<?>> kinds = new HashSet<>(Arrays.asList(int.class, long.class, boolean.class, char.class,
+                String.class, int[].class, long[].class, char[].class, byte[].class));
+        for (Class<?> one : allClasses()) {
+            for (Field field : one.getDeclaredFields()) {
+                if (!Modifier.isStatic(field.getModifiers()) || field.isSynthetic()) {
+                    continue;
+                }
+                Class<?> type = field.getType();
+                boolean isOfEnum = type.isEnum() || type.isArray() && type.getComponentType().isEnum();
+                due(true, () -> isConstant(field) && (isOfEnum || kinds.contains(type)));
+            }
+        }
+    }
+
+    /** Rule 2. */
+    private static void fieldsOfEnums() {
+        Set<Class<?>> kinds = new HashSet<>(Arrays.asList(int.class, long.class, boolean.class, String.class));
+        for (Class<?> one : allClasses()) {
+            for (Field field : one.getDeclaredFields()) {
+                if (one.isEnum() && !Modifier.isStatic(field.getModifiers())) {
+                    due(true, () -> kinds.contains(field.getType()));
+                }
+            }
+        }
+    }
+
+    /** Rule 11. */
+    private static void fewClassesFieldsAndParameters() {
+        due(true, () -> allClasses().size() <= 12);
+        for (Class<?> one : allClasses()) {
+            long fields = Arrays.stream(one.getDeclaredFields()).filter(field -> !isConstant(field)).count();
+            due(true, () -> fields <= 20);
+            for (Method method : one.getDeclaredMethods()) {
+                due(true, () -> method.getParameterCount() <= 7);
+            }
+        }
+    }
+
+    /** Rule 6: none of the classes inside is an exception, and none has these methods of its own. */
+    private static void noExceptionsAndNoEqualsOfItsOwn() {
+        Set<String> none = new HashSet<>(Arrays.asList("equals", "hashCode", "toString"));
+        for (Class<?> one : allClasses()) {
+            due(false, () -> Throwable.class.isAssignableFrom(one));
+            for (Method method : one.getDeclaredMethods()) {
+                due(false, () -> none.contains(method.getName()));
             }
         }
     }
